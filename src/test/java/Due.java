@@ -16,6 +16,10 @@ final class Due {
         }
     }
 
+    void is(LockerRows x, Call call, long want) {
+        is(call.name(), call.on(x), want);
+    }
+
     /** Ends the test; a test that looked at nothing fails, too. */
     void end() {
         if (wrong != 0 || looked == 0) {
@@ -28,6 +32,15 @@ final class Due {
     static LockerRows withBoxes(int... sizes) {
         LockerRows x = new LockerRows();
         for (int size : sizes) {
+            x.box(size);
+        }
+        return x;
+    }
+
+    /** A new object with so many boxes of one size. */
+    static LockerRows withEqualBoxes(int count, int size) {
+        LockerRows x = new LockerRows();
+        for (int n = 0; n < count; n++) {
             x.box(size);
         }
         return x;
